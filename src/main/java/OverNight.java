@@ -1245,6 +1245,11 @@ public final class OverNight {
       return of[m] | with[m];
     }
 
+    /** Whether a WANT comes from a time on up to another one, that one no more. */
+    boolean isAsked(int from, int to) {
+      return wantsAhead[to] > wantsAhead[from];
+    }
+
     boolean isAwake() {
       int overStroke = 1 << (HOURS - 1) | 1;
       for (int p = 0; p < people.count; p++) {
@@ -1593,6 +1598,8 @@ public final class OverNight {
 
     private int things;
     private final int[] stayWays = new int[THING_LIMIT];
+    // What stays if nothing is worn, held, sent.
+    private int plain;
     // A LAW leaves at most two open at each of six levels, and the one at hand.
     private final int[] open = new int[2 * DEPTH_LIMIT + 1];
     int choices;
@@ -1604,9 +1611,11 @@ public final class OverNight {
     /** Learns for each THING of a set the ways in which it stays in a NIGHT of a DAY with this rest by 7. */
     void look(Town town, int set, int rest) {
       things = town.things.count;
+      plain = 0;
       for (int k = 0; k < things; k++) {
         boolean asked = (set & town.law.ruled & 1 << k) != 0;
         stayWays[k] = asked ? ways(town.law, k, set, rest) : 0;
+        plain |= (stayWays[k] & 1) << k;
       }
     }
 
@@ -1647,14 +1656,21 @@ public final class OverNight {
 
     /** What STAYS of the set looked at. */
     int left(int wornThing, int heldThing, int sentThing) {
-      int left = 0;
-      for (int k = 0; k < things; k++) {
-        int way = (k == wornThing ? AS_WORN : 0) | (k == heldThing ? AS_HELD : 0) | (k == sentThing ? AS_SENT : 0);
-        if ((stayWays[k] >> way & 1) != 0) {
-          left |= 1 << k;
-        }
+      int left = plain;
+      left = chosen(left, wornThing, wornThing, heldThing, sentThing);
+      left = chosen(left, heldThing, wornThing, heldThing, sentThing);
+      return chosen(left, sentThing, wornThing, heldThing, sentThing);
+    }
+
+    /** Settles whether one that is worn, held or sent, perhaps several of these, stays. */
+    private int chosen(int left, int thing, int wornThing, int heldThing, int sentThing) {
+      if (thing < 0 || thing >= things) {
+        return left;
       }
-      return left;
+      int way = thing == wornThing ? AS_WORN : 0;
+      way |= thing == heldThing ? AS_HELD : 0;
+      way |= thing == sentThing ? AS_SENT : 0;
+      return (stayWays[thing] >> way & 1) != 0 ? left | 1 << thing : left & ~(1 << thing);
     }
 
     /**
@@ -1871,9 +1887,14 @@ public final class OverNight {
       }
     }
 
+    /** Raises what it comes to at a time, for each set with which a MAKING can begin then. */
     private void beginAll(int m, int time) {
-      for (int set = 0; set < town.sets(); set++) {
-        int worth = begun(m, time, set);
+      int needs = town.needs(m);
+      int end = time + town.hours[m];
+      boolean asked = town.isAsked(time + 1, end);
+      for (int set = needs; set < town.sets(); set = set + 1 | needs) {
+        // Most makings run past no WANT: they are spared the shelf.
+        int worth = asked ? begun(m, time, set) : best[end * SETS + made(m, set)];
         if (worth > best[time * SETS + set]) {
           best[time * SETS + set] = worth;
         }
@@ -1882,11 +1903,16 @@ public final class OverNight {
 
     /** What WANTS leave is a lesser set or the same: greater ones go first, as they look at what is not served yet. */
     private void serveAll(int time) {
-      for (int set = town.sets() - 1; set >= 0; set--) {
+      boolean asked = town.isAsked(time, time + 1);
+      for (int set = town.sets() - 1; set >= 0 && asked; set--) {
         shelf.begin(set);
         shelf.serve(town, time, time + 1);
         best[time * SETS + set] = shelf.worth + best[time * SETS + shelf.set];
       }
+    }
+
+    private int made(int m, int set) {
+      return set & ~town.of[m] | 1 << town.gives[m];
     }
 
     private boolean canBegin(int m, int time) {
@@ -1987,7 +2013,7 @@ public final class OverNight {
         settled[s] = true;
         for (int m = 0; m < town.makings.count; m++) {
           if (town.hands[m] == 1 && (town.needs(m) & ~s) == 0) {
-            shorten(s & ~town.of[m] | 1 << town.gives[m], labour[s] + town.hours[m]);
+            shorten(made(m, s), labour[s] + town.hours[m]);
           }
         }
       }
