@@ -51,7 +51,7 @@ public final class AloneTest {
     Check.told(x, 0, x.law(0));
     Check.told(x, 0, x.night(7, 0, 2, 1, 0));
     x = Check.in(town.replace("22 to 2", "1 to 24"), "c stays held; b stays day = 0 or day = 6;");
-    Check.no(x, 9, x.night(7, -1, 2, -1, 0));
+    for (int k = 0; k < 3; k++) Check.no(x, 9, x.night(7, -1, k, -1, 0));
     Check.told(x, 2, x.night(7, -1, -1, -1, 0));
     Check.told(x, 0, x.night(7, -1, -1, -1, 1));
     Check.told(x, 2, x.night(7, -1, -1, -1, 13));
@@ -147,6 +147,13 @@ public final class AloneTest {
     Check.no(x, 9, x.hands(8));
     x = Check.in("thing a; thing b; making m gives a hours 24 hands 3; making n gives b hours 24 hands 2;");
     Check.told(x, 5, x.hands(3));
+    // needs of needs, up and down the numbers
+    x = Check.in("thing a; thing b; thing c; thing d; making m gives a hours 5 hands 1 of d; making n gives d hours 5 hands 1 with b; making o gives b hours 5 hands 1 of c; making q gives c hours 5 hands 1;");
+    Check.told(x, 1, x.hands(1));
+    Check.town(x, "thing a; thing b; thing c; thing d; making m gives a hours 7 hands 1 of d; making n gives d hours 5 hands 1 with b; making o gives b hours 5 hands 1 of c; making q gives c hours 7 hands 2;");
+    Check.told(x, 2, x.hands(1));
+    Check.told(x, 2, x.hands(8));
+    Check.told(x, 2, x.hands(4));
   }
 
   private static final String DAY = "thing a; thing b; making m gives a hours 2 hands 1; making n gives b hours 1 hands 1 of a; making o gives b hours 1 hands 2;"
@@ -188,6 +195,20 @@ public final class AloneTest {
     Check.told(x, 6, x.stepTime(3));
     x = Check.in("thing a; thing b; making m gives b hours 5 hands 1 with a; want a at 3 worth 2 eaten; want b at 5 worth 1; want b at 4 worth 50;");
     Check.told(x, 3, x.day(1, 0));
+    // what is there all the while is wanted at the begin, between, at the end and behind it, once each
+    x = Check.in("thing b; thing c; making m gives b hours 2 hands 1; want c at 0 worth 1; want c at 1 worth 7; want b at 2 worth 3; want c at 2 worth 20; want c at 20 worth 100;");
+    Check.told(x, 131, x.day(2, 0));
+    Check.told(x, 127, x.day(2, 1));
+    Check.told(x, 0, x.step(0));
+    x = Check.in("thing a; thing b; thing c; making m gives b hours 2 hands 1 with a; want a at 3 worth 1 eaten; want a at 4 worth 9; want b at 5 worth 2; want b at 6 worth 1;");
+    Check.told(x, 4, x.day(1, 0));
+    Check.told(x, 4, x.day(1, 2));
+    Check.told(x, 0, x.step(0));
+    Check.told(x, -1, x.step(1));
+    Check.told(x, 4, x.stepTime(1));
+    Check.told(x, 1, x.day(1, 3));
+    Check.told(x, -1, x.step(0));
+    Check.told(x, 10, x.day(1, 4));
     // needed, but not used up: eaten at the very time when another begins it is not there
     x = Check.in("thing a; thing b; making m gives b hours 1 hands 1 with a; want a at 3 worth 2 eaten; want b at 4 worth 7; want b at 3 worth 1 eaten;");
     Check.told(x, 3, x.day(1, 0));
@@ -221,6 +242,9 @@ public final class AloneTest {
     Check.told(x, 6, x.days(0, 2, 7));
     Check.told(x, 6, x.days(0, 3, 6));
     Check.told(x, 6, x.days(0, 2, 994));
+    // made and eaten each DAY, with nothing in the NIGHTS
+    x = Check.in("thing a; making m gives a hours 4 hands 1; want a at 5 worth 1 eaten;");
+    Check.told(x, 3, x.days(0, 3, 0));
     // DAY 0's ends pay for a worse DAY ahead: 9 tomorrow for 5 today
     x = Check.in("thing a; thing b; making m gives b hours 24 hands 1 of a; want a at 3 worth 5; want b at 0 worth 9;", "b stays not here a;");
     Check.told(x, 5, x.days(1, 1, 0));
@@ -320,6 +344,12 @@ public final class AloneTest {
     night(x, 2, -1, -1, 4);
     Check.told(x, 2, x.days(3, 2, 4));
     night(x, 1, -1, -1, 2);
+    // by what the DAYS behind that NIGHT come to, not one more: c is worth most on one, b on two
+    x = Check.in("thing b wear; thing c wear; want b at 1 worth 2; want c at 1 worth 3;", "b stays worn; c stays worn and day = 0;");
+    Check.told(x, 8, x.days(3, 2, 0));
+    night(x, 1, -1, -1, 2);
+    Check.told(x, 9, x.days(3, 3, 0));
+    night(x, 0, -1, -1, 1);
     // worth as much by either: the first THING
     x = Check.in("thing a; thing b wear; thing c wear; want c at 1 worth 2; want b at 1 worth 2;", "b stays worn; c stays worn;");
     Check.told(x, 6, x.days(7, 2, 0));
@@ -341,6 +371,10 @@ public final class AloneTest {
     Check.told(x, 1, x.price(0, 24, 0));
     Check.told(x, 9, x.price(1, 4, 1));
     Check.told(x, 0, x.price(1, 5, 1));
+    // of that DAY alone, though a would be worth more tomorrow
+    OverNight y = Check.in("thing a; want a at 20 worth 3;", "a stays not worn;");
+    Check.told(y, 3, y.price(0, 0, 0));
+    Check.told(y, 0, y.price(0, 21, 0));
     Check.no(x, 2, x.price(2, 0, 0));
     Check.no(x, 2, x.price(-1, 25, 0));
     Check.no(x, 2, x.price(0, 0, 4));
@@ -378,6 +412,12 @@ public final class AloneTest {
     x = Check.in("thing a; want a at 3 worth 1;", "a stays day = 0;");
     Check.told(x, 2, x.kept(0, 2));
     Check.told(x, 2, x.kept(0, 3));
+    x = Check.in("thing b; thing a; want a at 3 worth 2; want b at 3 worth 3;", "a stays day = 0;");
+    Check.told(x, 1, x.bestKept(2));
+    Check.told(x, 0, x.bestKept(1));
+    // from time 0 on: one hour less and there is no time to make it
+    x = Check.in("thing a; making m gives a hours 24 hands 1; want a at 24 worth 3; want a at 1 worth 1;");
+    Check.told(x, 1, x.kept(0, 1));
   }
 
   private static void promises32And33() {
@@ -408,6 +448,16 @@ public final class AloneTest {
     Check.town(x, "");
     Check.no(x, 8, x.bestMore(1));
     Check.no(x, 5, x.bestMore(0));
+    // from DAY 0 on: behind it b stays as it is, behind DAY 1 it does not; the last THING can be most, too
+    x = Check.in("thing a; thing b; making m gives a hours 1 hands 1; making n gives b hours 1 hands 1; want a at 0 worth 2; want b at 0 worth 3;", "b stays day = 0;");
+    Check.told(x, 0, x.bestMore(2));
+    Check.told(x, 0, x.bestMore(4));
+    Check.told(x, 1, x.bestMore(5));
+    Check.law(x, "b stays day = 1;");
+    Check.told(x, 1, x.bestMore(2));
+    // from nothing on: what can't be made is worth nothing more
+    x = Check.in("thing a; want a at 0 worth 2;");
+    Check.told(x, 0, x.more(0, 9));
     // one that always stays is still eaten, and used up
     x = Check.in("thing a; making m gives a hours 1 hands 1; want a at 0 worth 2 eaten; want a at 5 worth 1 eaten;");
     Check.told(x, 4, x.more(0, 3));

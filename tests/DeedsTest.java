@@ -144,6 +144,25 @@ public final class DeedsTest {
     Check.told(x, 1, x.there(25));
     Check.told(x, 20, x.done(2, 3));
     Check.told(x, 0, x.there(25));
+    // two that end at one time; what was given at 24 is of that DAY alone
+    OverNight y = Check.in("thing a; thing b; thing c; making m gives a hours 2 hands 1 of c; making n gives b hours 3 hands 1 of c; person p from 0 to 0; person q from 0 to 0; want a at 24 worth 5; want b at 24 worth 7;",
+        "", "at 3 m by p; at 2 n by q; at 22 m by p; at 21 n by q;");
+    Check.told(y, 7, y.done(4, 0));
+    Check.told(y, 2, y.there(5));
+    Check.told(y, 0, y.done(0, 0));
+    Check.plan(y, "at 21 n by q; at 22 m by p;");
+    Check.told(y, 7, y.done(4, 0));
+    Check.told(y, 2, y.there(24));
+    Check.told(y, 0, y.done(0, 0));
+    Check.town(y, "thing a; thing b; making m gives a hours 2 hands 1; making n gives b hours 3 hands 1; person p from 0 to 0; person q from 0 to 0; want a at 24 worth 5; want b at 24 worth 7;");
+    Check.plan(y, "at 21 n by q; at 22 m by p;");
+    Check.told(y, 12, y.done(0, 0));
+    Check.told(y, 0, y.there(23));
+    Check.told(y, 3, y.there(24));
+    Check.plan(y, "at 0 n by q; at 1 m by p;");
+    Check.told(y, 12, y.done(0, 0));
+    Check.told(y, 0, y.there(2));
+    Check.told(y, 3, y.there(3));
     // an empty PLAN is one
     x.plan(0);
     Check.told(x, 321, x.done(7, 0));

@@ -66,6 +66,11 @@ public final class TextTest {
     Check.told(x, 0, x.thing(0, 2));
     Check.told(x, 0, x.many(4));
     Check.no(x, 8, x.lives(1));
+    // as many TOKENS as there can be
+    Check.fault(x, 2, 0, Check.town(x, ";".repeat(800)));
+    Check.fault(x, 2, 799, Check.town(x, "thing a;" + " ".repeat(791) + ";"));
+    Check.fault(x, 1, 799, Check.town(x, "thing a;" + " ".repeat(791) + "#"));
+    Check.well(x, 1, Check.town(x, "thing a;" + "\n".repeat(792)));
     // blanks (10, 32) where one likes, none where TOKENS end by themselves
     Check.well(x, 1, Check.town(x, "\n thing\n\na;making m gives a hours 1hands 3;person p from 0to 24ill 16;want a at 7worth 9eaten;\n"));
     Check.told(x, 1, x.want(0, 3));
@@ -182,6 +187,11 @@ public final class TextTest {
     Check.no(x, 5, Check.law(x, long300 + " "));
     Check.well(x, 1, x.law(300));
     Check.no(x, 5, x.law(1));
+    // as much left open as can be: each level waits for its last
+    x = Check.in("thing a wear;");
+    Check.well(x, 1, Check.law(x, "a stays sent or worn and (sent or worn and (sent or worn and (sent or worn and (sent or worn and (sent or worn and worn)))));"));
+    Check.told(x, 1, x.night(1, 0, -1, -1, 0));
+    Check.told(x, 0, x.night(1, -1, -1, -1, 0));
     // "and" is joined ahead of "or", not binds most
     x = Check.in("thing a wear send; thing b; person p from 0 to 0;", "a stays held and worn or sent; b stays not held and here a;");
     Check.told(x, 1, x.night(1, -1, -1, 0, 0));

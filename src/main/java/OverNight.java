@@ -27,10 +27,6 @@ public final class OverNight {
   private long top;
   private long bottom = 1;
   private final Tray[] trays = new Tray[TRAYS];
-  private final byte[] tape = new byte[TAPE_LIMIT];
-  private int taped;
-  private int faultKind = NONE;
-  private int faultPlace = NONE;
   // The TOWN that is there is the one at [marks]; those ahead of it are what the MARKS keep.
   private final Town[] towns = new Town[MARK_LIMIT + 1];
   private int marks;
@@ -38,7 +34,7 @@ public final class OverNight {
   private Town spareTown = new Town();
   private Law spareLaw = new Law();
   private Plan sparePlan = new Plan();
-  private final Tokens tokens = new Tokens(tape);
+  private final Tokens tokens = new Tokens();
   private final Nights nights = new Nights();
   private final Soon soon = new Soon();
   private final Alone alone = new Alone();
@@ -134,15 +130,15 @@ public final class OverNight {
   // ---- texts.
 
   public int feed(int a, int b, int c, int d, int e) {
-    if (taped > TAPE_LIMIT - 20) {
+    if (tokens.taped > TAPE_LIMIT - 20) {
       return NONE;
     }
-    feedInt(a);
-    feedInt(b);
-    feedInt(c);
-    feedInt(d);
-    feedInt(e);
-    return taped;
+    tokens.tapeFour(a);
+    tokens.tapeFour(b);
+    tokens.tapeFour(c);
+    tokens.tapeFour(d);
+    tokens.tapeFour(e);
+    return tokens.taped;
   }
 
   public int town(int n) {
@@ -150,10 +146,7 @@ public final class OverNight {
       return fail(5);
     }
     tokens.begin(n);
-    taped = 0;
-    boolean well = spareTown.build(tokens);
-    keepFault();
-    if (!well) {
+    if (!spareTown.build(tokens)) {
       return fail(10);
     }
     Town old = now();
@@ -167,10 +160,7 @@ public final class OverNight {
       return fail(5);
     }
     tokens.begin(n);
-    taped = 0;
-    boolean well = spareLaw.build(tokens, now().things);
-    keepFault();
-    if (!well) {
+    if (!spareLaw.build(tokens, now().things)) {
       return fail(10);
     }
     Law old = now().law;
@@ -184,10 +174,7 @@ public final class OverNight {
       return fail(5);
     }
     tokens.begin(n);
-    taped = 0;
-    boolean well = sparePlan.build(tokens, now());
-    keepFault();
-    if (!well) {
+    if (!sparePlan.build(tokens, now())) {
       return fail(10);
     }
     Plan old = now().plan;
@@ -198,9 +185,9 @@ public final class OverNight {
 
   public int fault(int what) {
     if (what == 0) {
-      return faultKind;
+      return tokens.fault;
     }
-    return what == 1 ? faultPlace : NONE;
+    return what == 1 ? tokens.faultPlace : NONE;
   }
 
   public int many(int what) {
@@ -663,22 +650,8 @@ public final class OverNight {
     }
   }
 
-  private void feedInt(int four) {
-    for (int shift = 24; shift >= 0; shift -= 8) {
-      if (taped < tape.length) {
-        tape[taped] = (byte) (four >> shift);
-        taped++;
-      }
-    }
-  }
-
   private boolean isText(int n, int limit) {
-    return n >= 0 && n <= taped && n <= limit;
-  }
-
-  private void keepFault() {
-    faultKind = tokens.fault;
-    faultPlace = tokens.faultPlace;
+    return n >= 0 && n <= tokens.taped && n <= limit;
   }
 
   private boolean isTray(int tray) {
@@ -773,7 +746,7 @@ public final class OverNight {
     }
   }
 
-  /** The TOKENS of a text, one ahead at a time, and the FAULT at which the reading ended. */
+  /** The tape, the TOKENS of the text that came of it, one ahead at a time, and the FAULT that ended the reading. */
   private static final class Tokens {
     static final int END = 0;
     static final int BAD = 1;
@@ -816,18 +789,19 @@ public final class OverNight {
     private static final int NAME_LETTERS = 8;
     private static final int NUMBER_DIGITS = 4;
 
-    private final byte[] text;
+    private final byte[] tape = new byte[TAPE_LIMIT];
+    int taped;
     private final long[] reserved = new long[28];
     // All TOKENS of the text, END behind the last; a NUMBER's value, a WORD's letters as a number.
     private final int[] kinds = new int[TAPE_LIMIT + 1];
     private final int[] places = new int[TAPE_LIMIT + 1];
     private final long[] values = new long[TAPE_LIMIT + 1];
     private int at;
-    int fault;
-    int faultPlace;
+    // NONE ahead of any text, 0 of one without a FAULT.
+    int fault = NONE;
+    int faultPlace = NONE;
 
-    Tokens(byte[] text) {
-      this.text = text;
+    Tokens() {
       int k = 0;
       for (int i = 0; i < RESERVED.length() && k < reserved.length; i++) {
         if (RESERVED.charAt(i) == ' ') {
@@ -838,13 +812,23 @@ public final class OverNight {
       }
     }
 
-    /** Takes the first n bytes as the text, and its first TOKEN as the one ahead. */
+    void tapeFour(int bytes) {
+      for (int shift = 24; shift >= 0; shift -= 8) {
+        if (taped < tape.length) {
+          tape[taped] = (byte) (bytes >> shift);
+          taped++;
+        }
+      }
+    }
+
+    /** Takes the first n bytes of the tape as the text, its first TOKEN as the one ahead; the tape is empty then. */
     void begin(int n) {
-      int length = Math.min(n, text.length);
+      int length = Math.min(n, taped);
+      taped = 0;
       int count = 0;
       int place = 0;
       for (int i = 0; i < TAPE_LIMIT && place < length; i++) {
-        if (isBlank(text[place])) {
+        if (isBlank(tape[place])) {
           place++;
         } else {
           places[count] = place;
@@ -861,21 +845,21 @@ public final class OverNight {
 
     /** Finds what TOKEN begins at a place: where it ends. */
     private int scan(int k, int place, int length) {
-      if (isLetter(text[place])) {
+      if (isLetter(tape[place])) {
         return scanWord(k, place, length);
       }
-      if (isDigit(text[place])) {
+      if (isDigit(tape[place])) {
         return scanNumber(k, place, length);
       }
-      kinds[k] = SIGNS.indexOf((char) (text[place] & 255)) >= 0 ? text[place] : BAD;
+      kinds[k] = SIGNS.indexOf((char) (tape[place] & 255)) >= 0 ? tape[place] : BAD;
       return place + 1;
     }
 
     private int scanWord(int k, int place, int length) {
       int end = place;
       long word = 0;
-      for (; end < length && isLetter(text[end]); end++) {
-        word = end - place < NAME_LETTERS ? longer(word, text[end]) : 0;
+      for (; end < length && isLetter(tape[end]); end++) {
+        word = end - place < NAME_LETTERS ? longer(word, tape[end]) : 0;
       }
       values[k] = word;
       kinds[k] = end - place > NAME_LETTERS ? LONG_WORD : NAME;
@@ -890,8 +874,8 @@ public final class OverNight {
     private int scanNumber(int k, int place, int length) {
       int end = place;
       int value = 0;
-      for (; end < length && isDigit(text[end]); end++) {
-        value = end - place < NUMBER_DIGITS ? value * 10 + text[end] - '0' : 0;
+      for (; end < length && isDigit(tape[end]); end++) {
+        value = end - place < NUMBER_DIGITS ? value * 10 + tape[end] - '0' : 0;
       }
       values[k] = value;
       kinds[k] = end - place > NUMBER_DIGITS ? BAD : NUMBER;
