@@ -36,7 +36,7 @@ final class Check {
     wrong++;
     StackTraceElement[] stack = new Throwable().getStackTrace();
     int line = 0;
-    for (StackTraceElement e : stack) if (!e.getClassName().equals("Check")) { line = e.getLineNumber(); break; }
+    for (StackTraceElement e : stack) if (!e.getClassName().equals("Check") && !e.getClassName().equals("Edge")) { line = e.getLineNumber(); break; }
     System.out.println(part + ", line " + line + ": " + what);
   }
 
