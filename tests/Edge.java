@@ -67,13 +67,29 @@ final class Edge {
     x.plan(1);
   }
 
+  /** A call that is well, and what takes it back if it is counted: all that is told behind it is as it was. */
+  void changesNothing(Call call, Call takenBack) {
+    OverNight x = maker.make();
+    call.on(x);
+    Check.due(0, x.status());
+    List<String> got = Full.told(x);
+    takenBack.on(x);
+    got.addAll(Full.marked(x));
+    OverNight y = maker.make();
+    List<String> due = Full.told(y);
+    due.addAll(Full.marked(y));
+    compare(due, got);
+  }
+
   private static int read(OverNight x, String kind, String text) {
     return kind.equals("town") ? Check.town(x, text) : kind.equals("law") ? Check.law(x, text) : Check.plan(x, text);
   }
 
   private void same(OverNight x, boolean withTexts) {
-    List<String> got = Full.tells(x, withTexts);
-    List<String> due = Full.tells(maker.make(), withTexts);
+    compare(Full.tells(maker.make(), withTexts), Full.tells(x, withTexts));
+  }
+
+  private static void compare(List<String> due, List<String> got) {
     for (int i = 0; i < Math.min(got.size(), due.size()); i++) {
       if (!got.get(i).equals(due.get(i))) {
         Check.tell("a refused call changed something: " + got.get(i) + ", due is " + due.get(i));

@@ -64,16 +64,34 @@ final class Full {
     for (int i = 0; i < 4; i++) all.add("firstNight " + i + ": " + x.firstNight(i) + " " + x.status());
     for (int i = 0; i < 26; i++) all.add("there " + i + ": " + x.there(i) + " " + x.status());
     for (int i = 0; i < 4; i++) all.add("lived " + i + ": " + x.lived(i) + " " + x.status());
-    town(x, all);
-    deeds(x, all);
-    while (x.back() >= 0) {
-      for (int i = 0; i < 6; i++) all.add("behind a MARK, many " + i + ": " + x.many(i));
-      all.add("behind a MARK, LAW, PLAN: " + x.thing(0, 2) + " " + x.judged(0) + " " + x.done(1, 0) + " " + x.there(25) + " " + x.status());
-    }
+    all.addAll(told(x));
+    all.addAll(marked(x));
     if (withTexts) {
       int taped = x.feed(0x7468696e, 0x6720713b, 0x20202020, 0x20202020, 0x20202020);
       all.add("tape " + taped + ", its THINGS: " + x.town(taped) + " " + x.status());
     }
+    return all;
+  }
+
+  /** What is told of the TOWN, the LAW, the PLAN that are there. */
+  static List<String> told(OverNight x) {
+    List<String> all = new ArrayList<>();
+    town(x, all);
+    deeds(x, all);
+    all.add("day: " + x.day(0, 0) + " " + x.step(0) + " " + x.step(1) + " " + x.stepTime(1));
+    all.add("days: " + x.days(0, 3, 5) + " " + x.firstNight(0) + " " + x.firstNight(1) + " " + x.firstNight(2) + " " + x.firstNight(3));
+    all.add("labour, hands, shift: " + x.labour(1, 0) + " " + x.hands(1) + " " + x.shift(5) + " " + x.status());
+    return all;
+  }
+
+  /** What is told behind each MARK when all is taken back to it, till none is left. */
+  static List<String> marked(OverNight x) {
+    List<String> all = new ArrayList<>();
+    for (int k = 0; k < 4 && x.back() >= 0; k++) {
+      for (int i = 0; i < 6; i++) all.add("behind a MARK, many " + i + ": " + x.many(i));
+      all.add("behind a MARK, LAW, PLAN: " + x.thing(0, 2) + " " + x.judged(0) + " " + x.done(1, 0) + " " + x.there(25) + " " + x.status());
+    }
+    all.add("MARKS left: " + x.back() + " " + x.status());
     return all;
   }
 

@@ -441,6 +441,9 @@ public final class TextEdgeTest {
     Check.told(x, 12, x.many(1));
     Check.told(x, 12, x.making(11, 1));
     Check.no(x, 2, x.making(12, 1));
+    Check.told(x, 0, x.day(0, 0));
+    Check.told(x, 1, x.labour(1, 0));
+    Check.told(x, 1, x.soonest(0, 0));
     // the others count by themselves
     BARE.reads(8, "town", things(8) + makings(12) + people(6) + wants(8));
   }
@@ -453,6 +456,9 @@ public final class TextEdgeTest {
     Check.told(x, 6, x.many(2));
     Check.told(x, 1, x.awake(5, 5));
     Check.no(x, 2, x.awake(6, 5));
+    Check.told(x, 0, x.many(5));
+    Check.told(x, 63, x.shift(63));
+    Check.no(x, 9, x.shift(64));
   }
 
   private static void eightWants() {

@@ -25,6 +25,7 @@ public final class TownEdgeTest {
     lastNight();
     stepsOfAsMuch();
     nightsOfAsMuch();
+    nightOfThatDay();
     firstOfSeveralKept();
     firstOfSeveralMore();
     priceWithAndWithout();
@@ -42,6 +43,13 @@ public final class TownEdgeTest {
     allWantsAndNothing();
     tellsOfAnotherTown();
     backToTheLatest();
+    markChangesNothing();
+    nothingOfThatAhead();
+    asManyJobs();
+    nothingWornHeldSent();
+    mayNotBeChosen();
+    eightOfAll();
+    nightsWithManyChoices();
     Check.end("TownEdgeTest");
   }
 
@@ -319,6 +327,10 @@ public final class TownEdgeTest {
       Check.told(x, 1, x.hands(1));
       Check.told(x, d[1], x.hands(2));
     }
+    // what is needed for others does not count
+    OverNight other = Check.in("thing a; thing b; thing c; making m gives c hours 1 hands 1 of b; making n gives b hours 20 hands 3; making o gives a hours 1 hands 1;");
+    Check.told(other, 1, other.hands(1));
+    Check.told(other, 3, other.hands(4));
     // each THING once, though two need it; by the first MAKING of those by which it is soonest, though a later one takes fewer hands
     OverNight x = Check.in("thing a; thing b; thing c; making m gives a hours 8 hands 3; making mm gives a hours 8 hands 1; making n gives b hours 1 hands 1 of a; making o gives c hours 1 hands 1 of a;");
     Check.told(x, 3, x.hands(6));
@@ -356,6 +368,9 @@ public final class TownEdgeTest {
     OverNight y = Check.in("thing a; making m gives a hours 1 hands 1; want a at 0 worth 5;");
     Check.told(y, 0, y.days(0, 9, 0));
     Check.told(y, 5, y.days(1, 9, 0));
+    // nothing is there in any NIGHT, and each DAY is had all the same
+    OverNight z = Check.in("thing a; making m gives a hours 24 hands 1; want a at 24 worth 5 eaten;", "a stays not worn;");
+    for (int n = 1; n <= 9; n++) Check.told(z, 5 * n, z.days(0, n, 0));
   }
 
   private static void stepsOfAsMuch() {
@@ -380,6 +395,14 @@ public final class TownEdgeTest {
     Check.told(x, -1, x.step(0));
     Check.told(x, -1, x.step(1));
     Check.no(x, 8, x.step(2));
+    // both come to more than to rest: the one that comes to most, of several the first
+    int[][] worth = {{5, 5, 0}, {6, 5, 0}, {5, 6, 1}, {1, 1, 0}};
+    for (int[] w : worth) {
+      OverNight z = Check.in("thing a; thing b; making m gives a hours 3 hands 1; making n gives b hours 3 hands 1; want a at 3 worth " + w[0] + "; want b at 3 worth " + w[1] + ";");
+      Check.told(z, Math.max(w[0], w[1]), z.day(0, 0));
+      Check.told(z, w[2], z.step(0));
+      Check.told(z, 0, z.day(0, 1));
+    }
     // one that comes to less is none, however first; one that comes to more goes ahead
     OverNight y = Check.in("thing a; thing b; making m gives a hours 3 hands 1 of b; making n gives b hours 3 hands 1; want b at 5 worth 2;");
     Check.told(y, 2, y.day(2, 3));
@@ -406,6 +429,35 @@ public final class TownEdgeTest {
       x.days(3, 2, 0);
       String[] want = d[2].split(" ");
       for (int i = 0; i < 4; i++) Check.told(x, Integer.parseInt(want[i]), x.firstNight(i));
+    }
+  }
+
+  private static void nightOfThatDay() {
+    Check.part("First NIGHT: with what the DAYS behind come to, of what is there");
+    // c is worth 3 on the DAY behind, b 2, though b would come to more on one DAY more
+    OverNight x = Check.in("thing b wear; thing c wear; making m gives c hours 24 hands 1 with b; want b at 5 worth 2; want c at 5 worth 3 eaten;", "b stays worn; c stays worn;");
+    Check.told(x, 5, x.days(1, 2, 0));
+    Check.told(x, 1, x.firstNight(0));
+    Check.told(x, 2, x.firstNight(3));
+    // what comes at 24 is none of the WANTS of 23, but of those of 24
+    OverNight y = Check.in("thing a; making m gives a hours 24 hands 1; want a at 23 worth 1 eaten; want a at 0 worth 5;", "a stays not worn;");
+    Check.told(y, 6, y.days(0, 2, 0));
+    Check.told(y, 1, y.firstNight(3));
+    y = Check.in("thing a; making m gives a hours 24 hands 1; want a at 24 worth 1 eaten; want a at 0 worth 5;", "a stays not worn;");
+    Check.told(y, 1, y.days(0, 1, 0));
+    Check.told(y, 2, y.days(0, 2, 0));
+    Check.told(y, 0, y.firstNight(3));
+    // worn, held, sent to be rid of it: b never stays with a
+    for (String how : new String[] {"worn", "held", "sent"}) {
+      OverNight z = Check.in("thing a wear send; thing b; making m gives b hours 1 hands 1; want b at 0 worth 7;" + P, "a stays not " + how + "; b stays not here a;");
+      Check.told(z, 7, z.days(1, 3, 0));
+      Check.told(z, how.equals("worn") ? 0 : -1, z.firstNight(0));
+      Check.told(z, how.equals("held") ? 0 : -1, z.firstNight(1));
+      Check.told(z, how.equals("sent") ? 0 : -1, z.firstNight(2));
+      Check.told(z, 0, z.firstNight(3));
+      Check.told(z, 0, z.days(1, 2, 0));
+      Check.told(z, -1, z.firstNight(0));
+      Check.told(z, 1, z.firstNight(3));
     }
   }
 
@@ -736,5 +788,227 @@ public final class TownEdgeTest {
     Check.told(x, 1, x.many(4));
     Check.told(x, 2, x.back());
     Check.told(x, 5, x.many(4));
+  }
+
+  /** THINGS ta to th, each made in an hour, some more MAKINGS, PEOPLE that are always awake: as many as there may be. */
+  private static String eight() {
+    StringBuilder s = new StringBuilder();
+    for (char c = 'a'; c <= 'h'; c++) s.append("thing t").append(c).append(" wear send;");
+    for (char c = 'a'; c <= 'h'; c++) s.append("making m").append(c).append(" gives t").append(c).append(" hours 1 hands 1;");
+    s.append("making n gives th hours 1 hands 1 of tg with ta; making o gives th hours 24 hands 3; making q gives ta hours 1 hands 1 of ta tb tc td te tf tg th;");
+    s.append("making r gives th hours 23 hands 1;");
+    for (char c = 'a'; c <= 'f'; c++) s.append("person p").append(c).append(" from 0 to 0;");
+    return s.toString();
+  }
+
+  private static void eightOfAll() {
+    Check.part("THINGS, at most 8: the eighth as any other");
+    StringBuilder wants = new StringBuilder();
+    for (int k = 0; k < 8; k++) wants.append("want t").append((char) ('a' + k)).append(" at 0 worth ").append(1 << k).append(';');
+    OverNight x = Check.in(eight());
+    Check.law(x, "th stays held or here ta; ta stays here th and worn;");
+    Check.told(x, 128, x.night(128, -1, 7, -1, 0));
+    Check.told(x, 0, x.night(128, 7, -1, 7, 0));
+    Check.told(x, 129, x.night(129, 0, -1, -1, 0));
+    Check.told(x, 128, x.night(255, 7, 7, 7, 0));
+    Check.told(x, 1, x.soonest(7, 0));
+    Check.told(x, 0, x.soonest(7, 128));
+    Check.told(x, 7, x.bars(7, 0, 0));
+    Check.told(x, 8, x.labour(255, 0));
+    Check.told(x, 1, x.labour(128, 127));
+    Check.told(x, 1, x.hands(255));
+    Check.town(x, eight().substring(0, eight().indexOf("making n")) + wants);
+    Check.told(x, 255, x.day(255, 0));
+    Check.told(x, 127, x.day(127, 0));
+    Check.told(x, 0, x.day(255, 1));
+    for (int k = 0; k < 8; k++) {
+      Check.told(x, 1 << k, x.kept(k, 2));
+      Check.told(x, 1 << k, x.more(k, 2));
+      Check.told(x, 1 << k, x.price(k, 0, 255));
+    }
+    Check.told(x, 7, x.bestKept(2));
+    Check.told(x, 7, x.bestMore(2));
+    Check.told(x, 0, x.bestMore(1));
+    Check.town(x, eight().substring(0, eight().indexOf("making ma")) + "making ma gives ta hours 2 hands 1; want ta at 5 worth 3;");
+    Check.told(x, 3, x.day(0, 3));
+    Check.told(x, 0, x.day(0, 4));
+    // fewer THINGS behind it: what was reckoned for eight is none of theirs
+    Check.town(x, "thing a; thing b; making m gives a hours 1 hands 1; want a at 0 worth 1;");
+    Check.told(x, 0, x.bestMore(2));
+    Check.told(x, 0, x.bestKept(2));
+    Check.told(x, 0, x.more(1, 2));
+    Check.told(x, 1, x.more(0, 2));
+  }
+
+  private static void asManyJobs() {
+    Check.part("24 JOBS, 6 PEOPLE: the last as any other");
+    StringBuilder people = new StringBuilder();
+    for (char c = 'a'; c <= 'f'; c++) people.append("person ").append(c).append(" from 0 to 0").append(c == 'f' ? " ill 16;" : ";");
+    StringBuilder plan = new StringBuilder();
+    for (int h = 0; h < 23; h++) plan.append("at ").append(h).append("m by a;");
+    OverNight x = Check.in("thing t; making m gives t hours 1 hands 1; want t at 23 worth 1 eaten; want t at 24 worth 2;" + people, "", plan + "at 23m by f;");
+    Check.told(x, 24, x.many(4));
+    Check.told(x, 0, x.judged(0));
+    Check.told(x, 3, x.done(0, 0));
+    Check.told(x, 297, x.lives(99));
+    Check.told(x, 0, x.lived(0));
+    Check.told(x, 99, x.ill(0, 99));
+    Check.told(x, 99, x.lived(0));
+    Check.plan(x, plan + "at 22m by a;");
+    Check.told(x, 3, x.judged(0));
+    Check.told(x, 23, x.judged(1));
+    Check.plan(x, plan + "hold t;");
+    Check.told(x, 6, x.judged(0));
+    Check.told(x, 23, x.judged(1));
+    Check.told(x, 0, x.judged(2));
+    Check.told(x, 1, x.lives(1));
+    Check.told(x, 1, x.lived(0));
+  }
+
+  private static void nothingWornHeldSent() {
+    Check.part("DONE: worn, held, sent as told, if it can be; none else");
+    String town = "thing a wear send; thing b; person p from #;";
+    for (String people : new String[] {"0 to 0", "0 to 23"}) {
+      for (String how : new String[] {"worn", "held", "sent"}) {
+        String job = how.equals("worn") ? "wear " : how.equals("held") ? "hold " : "send ";
+        OverNight x = Check.in(town.replace("#", people), "a stays " + how + "; b stays not " + how + ";", "");
+        Check.told(x, 0, x.done(3, 0));
+        Check.told(x, 2, x.there(25));
+        for (String other : new String[] {"wear ", "hold ", "send "}) {
+          Check.plan(x, other + "a;");
+          Check.told(x, 0, x.done(3, 0));
+          boolean may = !job.equals("hold ") || people.equals("0 to 0");
+          Check.told(x, other.equals(job) && may ? 3 : 2, x.there(25));
+          Check.told(x, 0, x.done(2, 0));
+          Check.told(x, 2, x.there(25));
+        }
+        Check.plan(x, job + "b;");
+        Check.told(x, 0, x.done(3, 0));
+        // b may be held, but not worn, not sent
+        Check.told(x, how.equals("held") && people.equals("0 to 0") ? 0 : 2, x.there(25));
+      }
+    }
+  }
+
+  private static void mayNotBeChosen() {
+    Check.part("NIGHT: one that may be WORN is worn, one is HELD if the town is AWAKE, one that may be SENT is sent");
+    String[] may = {"wear", "", "send"};
+    String[] how = {"worn", "held", "sent"};
+    for (int i = 0; i < 3; i++) {
+      for (String people : new String[] {"0 to 0", "0 to 23"}) {
+        for (String which : new String[] {"", "wear", "send", "wear send"}) {
+          OverNight x = Check.in("thing a " + which + "; want a at 3 worth 5; person p from " + people + ";", "a stays " + how[i] + ";");
+          boolean can = i == 1 ? people.equals("0 to 0") : which.contains(may[i]);
+          Check.told(x, can ? 10 : 5, x.days(1, 2, 0));
+          for (int w = 0; w < 3; w++) Check.told(x, can && w == i ? 0 : -1, x.firstNight(w));
+          Check.told(x, can ? 1 : 0, x.firstNight(3));
+        }
+      }
+    }
+  }
+
+  /** 20 CASES: all of seven THINGS may be worn and held, six may be sent: 8 times 8 times 7 NIGHTS. */
+  private static void nightsWithManyChoices() {
+    Check.part("First NIGHT: as many as there can be to choose from");
+    StringBuilder town = new StringBuilder();
+    StringBuilder law = new StringBuilder();
+    for (char c = 'a'; c <= 'g'; c++) {
+      town.append("thing ").append(c).append(" wear send;");
+      law.append(c).append(c == 'g' ? " stays worn and held;" : " stays worn and held and sent;");
+    }
+    town.append(P);
+    for (int k = 0; k < 7; k++) {
+      OverNight x = Check.in(town + "want " + (char) ('a' + k) + " at 0 worth 5;", law.toString());
+      Check.told(x, 10, x.days(127, 2, 0));
+      Check.told(x, k, x.firstNight(0));
+      Check.told(x, k, x.firstNight(1));
+      Check.told(x, k == 6 ? -1 : k, x.firstNight(2));
+      Check.told(x, 1 << k, x.firstNight(3));
+    }
+    OverNight x = Check.in(town + "want f at 0 worth 5; want g at 0 worth 6;", law.toString().replace("f stays worn and held and", "f stays"));
+    Check.told(x, 22, x.days(127, 2, 0));
+    Check.told(x, 6, x.firstNight(0));
+    Check.told(x, 6, x.firstNight(1));
+    Check.told(x, 5, x.firstNight(2));
+    Check.told(x, 96, x.firstNight(3));
+  }
+
+  private static void markChangesNothing() {
+    Check.part("MARKS: TOWN, LAW and PLAN are there as they were, behind a MARK made, too");
+    Edge full = new Edge(Full::make);
+    full.changesNothing(x -> x.mark(), x -> x.back());
+    // whatever stood in its place: a MARK made and taken back with another TOWN in it
+    full.changesNothing(x -> {
+      x.mark();
+      x.town(0);
+      x.back();
+      Check.feed(x, "thing x; thing y;   ");
+      return x.mark();
+    }, x -> x.back());
+    Edge bare = new Edge(Full::bare);
+    bare.changesNothing(x -> x.mark(), x -> x.back());
+    // all that is told of it, behind the MARK and by itself
+    OverNight x = Full.untaped();
+    Check.told(x, 3, x.mark());
+    Check.due(true, Full.told(x).equals(Full.told(Full.untaped())));
+  }
+
+  private static void nothingOfThatAhead() {
+    Check.part("A TOWN, a LAW, a PLAN that is taken is there in place of that ahead: nothing of it is left");
+    String[] poor = {"", "thing a;", "thing a; thing b; making m gives b hours 1 hands 1;", "thing a; thing b; making m gives a hours 1 hands 1 of b; want a at 1 worth 1;",
+        "thing a; person p from 5 to 6; want a at 3 worth 4;", "person p from 5 to 6;",
+        "thing a; thing b; thing c; making m gives a hours 2 hands 1; making n gives b hours 3 hands 1; making o gives c hours 5 hands 1;"
+        + "person p from 0 to 13; person q from 18 to 6; want a at 2 worth 1; want b at 13 worth 20; want c at 24 worth 300;"};
+    for (String town : poor) {
+      for (int richer = 1; richer <= 3; richer++) {
+        OverNight x = new OverNight();
+        for (int i = 0; i < richer; i++) {
+          Check.town(x, Full.TOWN);
+          Check.law(x, Full.LAW);
+          Check.plan(x, Full.PLAN);
+          if (i == 1) Check.town(x, Full.TOWN + "want");
+        }
+        Check.town(x, town);
+        OverNight y = Check.in(town);
+        Check.due(true, Full.told(x).equals(Full.told(y)));
+      }
+    }
+    // a LAW and a PLAN behind richer ones, and behind many of them
+    OverNight x = Check.in(Full.TOWN);
+    String twenty = "not (worn or held) and (here a or day < 3 and not sent) or ";
+    String longLaw = "a stays " + twenty + twenty + twenty + "not not not worn; b stays not sent;";
+    for (int i = 0; i < 22; i++) Check.well(x, 2, Check.law(x, longLaw));
+    Check.told(x, 3, x.night(3, -1, -1, -1, 0));
+    Check.told(x, 1, x.night(3, -1, -1, 1, 0));
+    Check.well(x, 1, Check.law(x, "c stays day > 2;"));
+    Check.told(x, 4, x.night(7, -1, -1, -1, 3));
+    Check.told(x, 0, x.night(7, -1, -1, -1, 2));
+    // nor of how ill one was
+    String sick = "thing a; making m gives a hours 1 hands 1; want a at 1 worth 1; person p from 0 to 0 ill 16;";
+    for (int richer = 1; richer <= 3; richer++) {
+      OverNight y = new OverNight();
+      for (int i = 0; i < richer; i++) Check.town(y, sick);
+      Check.town(y, sick.replace(" ill 16", ""));
+      Check.plan(y, "at 0 m by p;");
+      Check.told(y, 9, y.ill(0, 9));
+      Check.told(y, 0, y.lived(0));
+    }
+    String ill = "thing a wear; making m gives a hours 1 hands 1; want a at 0 worth 1; person p from 0 to 0 ill 16;";
+    x = Check.in(ill, "a stays worn or day = 0;");
+    for (int i = 0; i < 3; i++) Check.plan(x, "at 0 m by p; at 1 m by p; at 2 m by p;");
+    Check.plan(x, "wear a;");
+    Check.told(x, 0, x.ill(0, 9));
+    Check.told(x, 9, x.lived(0));
+    Check.plan(x, "wear a;");
+    Check.told(x, 1, x.done(1, 1));
+    Check.told(x, 1, x.there(25));
+    x = Check.in(ill.replace(" ill 16;", " ill 16; person q from 0 to 0;"), "a stays worn;");
+    for (int i = 0; i < 3; i++) Check.plan(x, "at 0 m by p; at 1 m by p; at 2 m by p;");
+    for (int i = 0; i < 2; i++) {
+      Check.plan(x, "wear a; at 0 m by q;");
+      Check.told(x, 8, x.ill(0, 9));
+      Check.told(x, 0, x.lived(0));
+      Check.told(x, 1, x.lived(1));
+    }
   }
 }
