@@ -16,6 +16,7 @@ public final class TextEdgeTest {
     emptyTexts();
     tapeIsEmptyThen();
     asLongAsTheyGo();
+    asLongAsTheTextGoes();
     blanks();
     smallLetters();
     digits();
@@ -197,6 +198,43 @@ public final class TextEdgeTest {
     SMALL.reads(1, "law", "a stays(((not(worn)or held)));");
     SMALL.reads(1, "law", "a stays day<3or day=3or day>5;");
     SMALL.faulty(2, "law", "a stays day<^=3;");
+  }
+
+  /** Reads as many bytes as stand ahead of |, where those behind it are on the tape, too. */
+  private static void cut(int fault, int place, String town) {
+    OverNight x = new OverNight();
+    Check.feed(x, town.replace("|", ""));
+    Check.fault(x, fault, place, x.town(town.indexOf('|')));
+  }
+
+  private static void asLongAsTheTextGoes() {
+    Check.part("the first n bytes of the tape: a TOKEN ends with them, whatever stands behind");
+    cut(2, 0, "thin|g a;");
+    cut(2, 5, "thing|a;");
+    cut(2, 7, "thing o|f;");
+    cut(2, 7, "thing o|ff;");
+    cut(2, 14, "thing abcdefgh|i;");
+    cut(2, 6, "thing abcdefghi|;");
+    String making = "thing a; making m gives a hours ";
+    cut(2, making.length() + 2, making + "24|5 hands 1;");
+    cut(4, making.length(), making + "245| hands 1;");
+    cut(2, making.length() + 1, making + "1|2345 hands 1;");
+    cut(4, making.length(), making + "1234|5 hands 1;");
+    cut(1, making.length(), making + "12345| hands 1;");
+    // nor is it what stood on the tape in an earlier text
+    OverNight x = new OverNight();
+    Check.feed(x, wide("", 20) + "g a;");
+    Check.told(x, 0, x.town(20));
+    Check.feed(x, blanks(16) + "thin");
+    Check.fault(x, 2, 16, x.town(20));
+    Check.feed(x, wide("", 20) + "5 hands 1;");
+    Check.told(x, 0, x.town(20));
+    Check.feed(x, "thing a; making m gives a hours       24");
+    Check.fault(x, 2, 40, x.town(40));
+    Check.feed(x, wide("", 40) + "5 hands 1;");
+    Check.told(x, 0, x.town(40));
+    Check.feed(x, "thing a; making m gives a hours       24");
+    Check.fault(x, 2, 40, x.town(40));
   }
 
   private static void blanks() {

@@ -29,6 +29,7 @@ public final class TownEdgeTest {
     firstOfSeveralKept();
     firstOfSeveralMore();
     priceWithAndWithout();
+    askedBehindOneAnother();
     kindOne();
     kindTwo();
     kindThree();
@@ -410,6 +411,16 @@ public final class TownEdgeTest {
     Check.told(y, 2, y.day(2, 0));
     Check.told(y, 1, y.step(0));
     Check.told(y, 3, y.stepTime(1));
+    // what another MAKING would have given is not there behind the one that was begun: o has no b at 2
+    OverNight v = Check.in("thing a; thing b; thing c; making m gives a hours 2 hands 1; making n gives b hours 2 hands 1; making o gives c hours 1 hands 1 of b;"
+        + "want a at 2 worth 20; want c at 3 worth 9;");
+    Check.told(v, 20, v.day(0, 0));
+    Check.told(v, 0, v.step(0));
+    Check.told(v, 0, v.step(1));
+    Check.told(v, 2, v.stepTime(1));
+    Check.told(v, 29, v.day(2, 0));
+    Check.told(v, 0, v.step(0));
+    Check.told(v, 2, v.step(1));
   }
 
   private static void nightsOfAsMuch() {
@@ -442,6 +453,11 @@ public final class TownEdgeTest {
     // what comes at 24 is none of the WANTS of 23, but of those of 24
     OverNight y = Check.in("thing a; making m gives a hours 24 hands 1; want a at 23 worth 1 eaten; want a at 0 worth 5;", "a stays not worn;");
     Check.told(y, 6, y.days(0, 2, 0));
+    Check.told(y, 1, y.firstNight(3));
+    // nor is there what would have been made in the HOUR of rest ahead of it, of what is wanted on the DAY behind
+    y = Check.in("thing a; thing b; making m gives b hours 1 hands 1 of a; want a at 0 worth 9;", "a stays not worn; b stays not worn;");
+    Check.told(y, 18, y.days(1, 2, 0));
+    Check.told(y, -1, y.step(23));
     Check.told(y, 1, y.firstNight(3));
     y = Check.in("thing a; making m gives a hours 24 hands 1; want a at 24 worth 1 eaten; want a at 0 worth 5;", "a stays not worn;");
     Check.told(y, 1, y.days(0, 1, 0));
@@ -505,6 +521,56 @@ public final class TownEdgeTest {
     Check.told(x, 0, x.price(0, 23, 2));
     Check.told(x, 104, x.price(1, 6, 0));
     Check.told(x, 4, x.price(1, 6, 1));
+  }
+
+  /** So many questions, each of its own kind. */
+  private static int alone(OverNight x, int which) {
+    switch (which) {
+      case 0: return x.kept(0, 3);
+      case 1: return x.kept(1, 3);
+      case 2: return x.bestKept(3);
+      case 3: return x.more(0, 3);
+      case 4: return x.more(1, 3);
+      case 5: return x.bestMore(3);
+      case 6: return x.days(1, 3, 2);
+      case 7: return x.days(2, 2, 6);
+      case 8: return x.day(3, 4);
+      case 9: return x.price(0, 5, 2);
+      case 10: return x.labour(3, 0);
+      case 11: return x.night(3, 0, -1, -1, 2);
+      case 12: return x.bars(1, 0, 1);
+      default: return x.hands(1);
+    }
+  }
+
+  private static void askedBehindOneAnother() {
+    Check.part("ALONE: a call tells the same whichever was asked ahead of it, MORE always stays for its own call alone");
+    String town = "thing a wear; thing b; making m gives a hours 24 hands 1; making n gives b hours 9 hands 1 with a; want a at 0 worth 5; want b at 9 worth 7; want a at 24 worth 1;";
+    String law = "a stays worn and day < 1; b stays day = 0;";
+    int[] due = new int[14];
+    for (int i = 0; i < due.length; i++) {
+      OverNight x = Check.in(town, law);
+      due[i] = alone(x, i);
+      Check.due(0, x.status());
+    }
+    Check.due(true, due[3] > 0 && due[4] > 0 && due[0] != due[1]);
+    for (int ahead = 0; ahead < due.length; ahead++) {
+      OverNight x = Check.in(town, law);
+      for (int i = 0; i < due.length; i++) {
+        Check.told(x, due[ahead], alone(x, ahead));
+        Check.told(x, due[i], alone(x, i));
+      }
+    }
+    // a that always stayed would be worth 3 on each DAY
+    OverNight y = Check.in("thing a; thing b; want a at 0 worth 3; want b at 0 worth 4;");
+    for (int round = 0; round < 2; round++) {
+      if (round == 0) Check.told(y, 0, y.more(0, 3)); else Check.told(y, 0, y.bestMore(3));
+      Check.told(y, 3, y.kept(0, 3));
+      Check.told(y, 1, y.bestKept(3));
+      Check.told(y, 3, y.days(1, 3, 0));
+      Check.told(y, 3, y.day(1, 0));
+      Check.told(y, 3, y.price(0, 0, 2));
+    }
   }
 
   // ---- 5.
@@ -832,6 +898,14 @@ public final class TownEdgeTest {
     Check.town(x, eight().substring(0, eight().indexOf("making ma")) + "making ma gives ta hours 2 hands 1; want ta at 5 worth 3;");
     Check.told(x, 3, x.day(0, 3));
     Check.told(x, 0, x.day(0, 4));
+    // all eight at 24, one at each time ahead of it
+    Check.town(x, eight().substring(0, eight().indexOf("making ma")) + wants.toString().replace("at 0", "at 24"));
+    Check.told(x, 255, x.day(255, 0));
+    Check.told(x, 255, x.day(255, 24));
+    Check.told(x, 129, x.day(129, 23));
+    Check.told(x, 510, x.days(0, 2, 0) + x.days(255, 2, 0) + x.day(255, 3));
+    Check.told(x, 128, x.price(7, 24, 127));
+    Check.told(x, 0, x.day(0, 24));
     // fewer THINGS behind it: what was reckoned for eight is none of theirs
     Check.town(x, "thing a; thing b; making m gives a hours 1 hands 1; want a at 0 worth 1;");
     Check.told(x, 0, x.bestMore(2));
